@@ -121,14 +121,14 @@ final class Bench {
         return text.isEmpty() ? new String[0] : text.split(" ");
     }
 
-    private static int kindOf(String word) {
+    static int kindOf(String word) {
         if (OPERATORS.contains(word)) {
             return 5;
         }
         return Math.max(0, KINDS.indexOf(word.charAt(0)));
     }
 
-    private static int numberOf(String word) {
+    static int numberOf(String word) {
         if (OPERATORS.contains(word)) {
             return OPERATORS.indexOf(word);
         }
