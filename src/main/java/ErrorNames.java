@@ -148,11 +148,7 @@ public final class ErrorNames {
         if (!isOfKind(kind, number)) {
             return -2;
         }
-        if (pile.full()) {
-            return -4;
-        }
-        pile.put(kind, number);
-        return pile.count();
+        return pile.put(kind, number) ? pile.count() : -4;
     }
 
     public int drop() {
@@ -301,10 +297,8 @@ public final class ErrorNames {
             if (error != FINE) {
                 arise(error, number);
             }
-        } else if (pile.full()) {
+        } else if (!pile.put(kind, number)) {
             arise(TOO_MANY, FOR_VALUE);
-        } else {
-            pile.put(kind, number);
         }
     }
 
@@ -331,10 +325,8 @@ public final class ErrorNames {
 
     private void endStopped() {
         frames.takeTop();
-        if (pile.full()) {
+        if (!pile.put(TRUTH, 0)) {
             arise(TOO_MANY, FOR_STOPPED);
-        } else {
-            pile.put(TRUTH, 0);
         }
     }
 
@@ -606,11 +598,7 @@ public final class ErrorNames {
         }
 
         private int more(int kind, int number) {
-            if (pile.full()) {
-                return TOO_MANY;
-            }
-            pile.put(kind, number);
-            return FINE;
+            return pile.put(kind, number) ? FINE : TOO_MANY;
         }
 
         private boolean topTwoAreTheSame() {
@@ -693,12 +681,15 @@ public final class ErrorNames {
             return others >= 0 && others < count ? numbers[count - 1 - others] : 0;
         }
 
-        void put(int kind, int number) {
-            if (count < MOST_VALUES) {
-                kinds[count] = kind;
-                numbers[count] = number;
-                count++;
+        /** Puts a value on top; answers whether there was room. */
+        boolean put(int kind, int number) {
+            if (count >= MOST_VALUES) {
+                return false;
             }
+            kinds[count] = kind;
+            numbers[count] = number;
+            count++;
+            return true;
         }
 
         /** Puts a value in the place of some of the topmost ones. */
@@ -835,7 +826,7 @@ public final class ErrorNames {
 
         /** Whether an operator may name the error: none arises when time is over. */
         boolean takes(int error) {
-            return has(error) && error != TIME_OVER;
+            return error >= TOO_FEW && error <= INTERRUPTED && error != TIME_OVER;
         }
 
         int of(int error) {

@@ -179,6 +179,7 @@ public final class ControlTest {
         atThirty("K7 exec 5", 5, "K7");
         turnWithoutRoom();
         stoppedWithoutRoom();
+        justEnoughRoom();
     }
 
     /** 29 frames of procedure 0, which counts them in K0, and on them one of a procedure with these tokens. */
@@ -216,6 +217,20 @@ public final class ControlTest {
         Bench.due("frames at most", x.record(7), 29);
         Bench.due("told", Bench.told(x), "8 24 1 0 1 1");
         Bench.due("pile", Bench.pile(x), "P0");
+    }
+
+    private static void justEnoughRoom() {
+        // K0 counts to 28 frames: there is room for two more.
+        ErrorNames x = Bench.with("K0 K0 load 1 add def K0 load 27 less P0 P1 ifelse stop", "1 P2 repeat 5", "4",
+            "K0 0 def P0 exec");
+        Bench.due("a loop and its TURN", x.run(3, 5000), 99);
+        Bench.due("pile", Bench.pile(x), "4 5");
+        Bench.due("frames", x.record(7), 30);
+        x.drop();
+        Bench.load(x, 1, "P2 stopped 5");
+        Bench.due("STOPPED and a procedure", x.run(3, 5000), 99);
+        Bench.due("pile", Bench.pile(x), "4 T0 5");
+        Bench.due("frames", x.record(7), 30);
     }
 
     private static void fullPiles() {

@@ -215,5 +215,11 @@ public final class StateTest {
         Bench.due("not interrupted", x.interrupt(), 1);
         Bench.due("forget again", x.forget(), 0);
         Bench.due("procedures stay", x.clear(0), 17);
+        ErrorNames y = Bench.with("K0 1 def K39 M def 6 P1 handle 1 0 div", "1 add 0 div");
+        Bench.due("an error in a handler", y.run(0, 30), 6);
+        Bench.due("told", Bench.told(y), "6 3 1 6 3 2");
+        Bench.due("the first name and the last", y.forget(), 2);
+        Bench.due("names", y.named(0, 0) + " " + y.named(0, 1) + " " + y.named(39, 0), "-1 0 -1");
+        Bench.due("told", Bench.told(y), "0 -1 0 0 0 0");
     }
 }
