@@ -1,6 +1,11 @@
 import java.util.Random;
 
-/** Made-up runs of calls, always the same ones, each answer compared with the plain model's. */
+/**
+ * Made-up runs of calls, always the same ones, each answer compared with the plain model's.
+ *
+ * <p>The looks at the state behind each call come to more than the 512 calls that the document speaks of: it promises
+ * nothing behind them, but this program's answers stay the same.
+ */
 public final class ModelTest {
     private static final int OBJECTS = 6000;
     private static final int CALLS = 40;
