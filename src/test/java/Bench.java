@@ -16,6 +16,7 @@ final class Bench {
 
     private static final String KINDS = "NTKMP";
     private static int wrong = 0;
+    private static String sentence = "";
 
     private Bench() {
     }
@@ -25,10 +26,15 @@ final class Bench {
         int answer();
     }
 
+    /** The document's words that the answers from here on are due by. */
+    static void says(String words) {
+        sentence = "'" + words + "': ";
+    }
+
     static void due(String what, Object got, Object want) {
         if (!got.equals(want)) {
             wrong++;
-            System.out.println(what + " answered " + got + ", due is " + want);
+            System.out.println(sentence + what + " answered " + got + ", due is " + want);
         }
     }
 
@@ -71,9 +77,22 @@ final class Bench {
         }
     }
 
+    /**
+     * A machine whose procedure 19 comes, over frames of procedure 0, to a frame of procedure 1 that is the frame of
+     * this number; behind procedure 1 there is a stop.
+     */
+    static ErrorNames deep(int frame, String... fromOneOn) {
+        ErrorNames x = with("K0 K0 load 1 add def K0 load " + frame + " less P0 P1 ifelse stop");
+        load(x, 19, "K0 1 def P0 exec");
+        for (int i = 0; i < fromOneOn.length; i++) {
+            load(x, i + 1, fromOneOn[i]);
+        }
+        return x;
+    }
+
     static void fill(ErrorNames x, int many) {
-        while (x.size() < many) {
-            x.push(0, x.size());
+        for (int i = x.size(); i < many; i++) {
+            x.push(0, i);
         }
     }
 
@@ -85,7 +104,8 @@ final class Bench {
 
     static String pile(ErrorNames x) {
         StringBuilder text = new StringBuilder();
-        for (int i = 0; i < x.size(); i++) {
+        int many = x.size();
+        for (int i = 0; i < many; i++) {
             text.append(i == 0 ? "" : " ").append(word(x.value(i, 0), x.value(i, 1)));
         }
         return text.toString();
@@ -93,7 +113,8 @@ final class Bench {
 
     static String kept(ErrorNames x) {
         StringBuilder text = new StringBuilder();
-        for (int i = 0; i < x.record(4); i++) {
+        int many = x.record(4);
+        for (int i = 0; i < many; i++) {
             text.append(i == 0 ? "" : " ").append(word(x.kept(i, 0), x.kept(i, 1)));
         }
         return text.toString();

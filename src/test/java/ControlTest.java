@@ -182,12 +182,10 @@ public final class ControlTest {
         justEnoughRoom();
     }
 
-    /** 29 frames of procedure 0, which counts them in K0, and on them one of a procedure with these tokens. */
     private static void atThirty(String text, int error, String pile) {
-        ErrorNames x = Bench.with("K0 K0 load 1 add def K0 load 29 less P0 P1 ifelse stop", text, "",
-            "K0 0 def P0 exec");
+        ErrorNames x = Bench.deep(30, text);
         String what = "at thirty: " + text;
-        Bench.due(what + " ended", x.run(3, 5000), error == NO_ERROR ? 99 : error);
+        Bench.due(what + " ended", x.run(19, 5000), error == NO_ERROR ? 99 : error);
         Bench.due(what + " frames", x.record(7), 30);
         Bench.due(what + " told", x.record(0), error);
         Bench.due(what + " left", Bench.pile(x), pile);
@@ -195,19 +193,18 @@ public final class ControlTest {
 
     private static void turnWithoutRoom() {
         // The loop is the 30th frame: its TURN has no room, and the loop is gone when the error arises.
-        ErrorNames x = Bench.with("K0 K0 load 1 add def K0 load 28 less P0 P1 ifelse stop", "1 2 3 P2 for 5", "",
-            "K0 0 def P0 exec");
-        Bench.due("29 frames and a loop", x.run(3, 5000), 8);
+        ErrorNames x = Bench.deep(29, "1 2 3 P2 for 5");
+        Bench.due("29 frames and a loop", x.run(19, 5000), 8);
         Bench.due("frames", x.record(7), 30);
         Bench.due("told", Bench.told(x), "8 -2 1 0 0 1");
         Bench.load(x, 1, "1 P2 repeat 5");
-        Bench.due("repeat", x.run(3, 5000), 8);
+        Bench.due("repeat", x.run(19, 5000), 8);
         Bench.due("told", Bench.told(x), "8 -2 1 0 0 2");
         Bench.load(x, 1, "P2 loop 5");
-        Bench.due("loop", x.run(3, 5000), 8);
+        Bench.due("loop", x.run(19, 5000), 8);
         Bench.due("told", Bench.told(x), "8 -2 1 0 0 3");
         Bench.load(x, 1, "0 P2 repeat 5");
-        Bench.due("no TURN needs no room", x.run(3, 5000), 99);
+        Bench.due("no TURN needs no room", x.run(19, 5000), 99);
         Bench.due("pile", Bench.pile(x), "5");
     }
 
@@ -220,15 +217,13 @@ public final class ControlTest {
     }
 
     private static void justEnoughRoom() {
-        // K0 counts to 28 frames: there is room for two more.
-        ErrorNames x = Bench.with("K0 K0 load 1 add def K0 load 27 less P0 P1 ifelse stop", "1 P2 repeat 5", "4",
-            "K0 0 def P0 exec");
-        Bench.due("a loop and its TURN", x.run(3, 5000), 99);
+        ErrorNames x = Bench.deep(28, "1 P2 repeat 5", "4");
+        Bench.due("a loop and its TURN", x.run(19, 5000), 99);
         Bench.due("pile", Bench.pile(x), "4 5");
         Bench.due("frames", x.record(7), 30);
         x.drop();
         Bench.load(x, 1, "P2 stopped 5");
-        Bench.due("STOPPED and a procedure", x.run(3, 5000), 99);
+        Bench.due("STOPPED and a procedure", x.run(19, 5000), 99);
         Bench.due("pile", Bench.pile(x), "4 T0 5");
         Bench.due("frames", x.record(7), 30);
     }

@@ -115,10 +115,10 @@ public final class ErrorTest {
         // 29 frames when the error arises: HANDLING and the procedure would come to 31.
         int[] frames = {27, 28, 29, 30};
         for (int many : frames) {
-            ErrorNames x = Bench.with("K0 K0 load 1 add def K0 load " + many + " less P0 P1 ifelse stop", "1 0 div 5",
-                "7", "6 P2 handle K0 1 def P0 exec");
+            ErrorNames x = Bench.deep(many, "1 0 div 5", "7", "6 P2 handle");
+            Bench.due("handler", x.run(3, 10), 0);
             boolean room = many <= 28;
-            Bench.due("at " + many, x.run(3, 5000), room ? 99 : 6);
+            Bench.due("at " + many, x.run(19, 5000), room ? 99 : 6);
             Bench.due("pile", Bench.pile(x), room ? "1 0 7 5" : "1 0");
             Bench.due("told", Bench.told(x), "6 3 1 0 2 1");
             Bench.due("frames and handlers", x.record(7) + " " + x.record(8),
