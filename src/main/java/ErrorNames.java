@@ -103,12 +103,12 @@ public final class ErrorNames {
     };
 
     private final Procedures procedures;
+    private final PileOperators pileOperators;
     private final Pile pile;
     private final Table table;
     private final Handlers handlers;
     private final Frames frames;
     private final Report report;
-    private final PileOperators pileOperators;
     private boolean interrupted;
     private int endedBy;
     private int stepsDone;
@@ -116,12 +116,12 @@ public final class ErrorNames {
 
     public ErrorNames() {
         procedures = new Procedures();
-        pile = new Pile();
-        table = new Table();
+        pileOperators = new PileOperators();
+        pile = pileOperators.pile();
+        table = pileOperators.table();
         handlers = new Handlers();
         frames = new Frames();
         report = new Report();
-        pileOperators = new PileOperators(pile, table);
     }
 
     public int token(int procedure, int kind, int number) {
@@ -524,14 +524,21 @@ public final class ErrorNames {
         return FINE;
     }
 
-    /** The operators that touch the pile and the table alone. */
+    /**
+     * The operators that touch the pile and the table alone.
+     *
+     * <p>It makes both itself, so that no constructor hands out a part of the object that it makes.
+     */
     private static final class PileOperators {
-        private final Pile pile;
-        private final Table table;
+        private final Pile pile = new Pile();
+        private final Table table = new Table();
 
-        PileOperators(Pile pile, Table table) {
-            this.pile = pile;
-            this.table = table;
+        Pile pile() {
+            return pile;
+        }
+
+        Table table() {
+            return table;
         }
 
         int operate(int operator) {
@@ -628,7 +635,10 @@ public final class ErrorNames {
 
         private int countToMark() {
             int mark = pile.topmostMark();
-            return mark == NONE ? NO_MARK : more(NUMBER, pile.count() - 1 - mark);
+            if (mark == NONE) {
+                return NO_MARK;
+            }
+            return pile.put(NUMBER, pile.count() - 1 - mark) ? FINE : TOO_MANY;
         }
 
         private int clearToMark() {
