@@ -15,7 +15,7 @@ import java.util.Set;
 import java.util.regex.Matcher;
 import java.util.regex.Pattern;
 
-/** The rules of LANGUAGE.md that can be seen in the class file or in the text, as narrowly as the program needs. */
+/** Rules 1, 2, 4, 5, 6, 11 and 12 of LANGUAGE.md, as far as the class file or the text shows them. */
 public final class LanguageTest {
     private static final List<Class<?>> CLASSES = new ArrayList<>();
 
